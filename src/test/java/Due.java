@@ -26,6 +26,28 @@ final class Due {
         equal(what, got ? 1 : 0, 0);
     }
 
+    /** now(0), now(1) and so on, as many as are told. */
+    static void now(String when, PictureBeats x, int... want) {
+        for (int what = 0; what < want.length; what++) {
+            equal(when + ": now(" + what + ")", x.now(what), want[what]);
+        }
+    }
+
+    /** A ROW from X 0 on, as many as are told. */
+    static void shown(String when, PictureBeats x, int row, int... want) {
+        for (int at = 0; at < want.length; at++) {
+            equal(when + ": shown(" + at + ", " + row + ")", x.shown(at, row), want[at]);
+        }
+    }
+
+    static void same(String what, String got, String want) {
+        asked++;
+        if (!got.equals(want)) {
+            wrong++;
+            System.out.println(what + " differs:\n" + got + "\ndue is\n" + want);
+        }
+    }
+
     static int wrongSoFar() {
         return wrong;
     }

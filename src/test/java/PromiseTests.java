@@ -1,7 +1,6 @@
 /** Each promise of the document by hand: ordinary inputs, the edges that it names, wrong inputs. */
 public final class PromiseTests {
-    /** Ticks from a new object's first one to the first tick of the next FIELD. */
-    private static final int TO_FIELD = 8;
+    private static final int TO_FIELD = Scenes.TO_FIELD;
 
     private PromiseTests() {
     }
@@ -42,29 +41,9 @@ public final class PromiseTests {
         Due.end();
     }
 
-    /** A new object with these ticks of a line, at the first tick of the first FIELD that has them. */
-    private static PictureBeats atFieldOf(int seen, int front, int sync, int back) {
-        PictureBeats x = new PictureBeats();
-        Due.yes("line told", x.line(seen, front, sync, back));
-        Due.equal("ticks to the FIELD", x.ticks(TO_FIELD), TO_FIELD);
-        return x;
-    }
-
-    private static void dueNow(String when, PictureBeats x, int... want) {
-        for (int what = 0; what < want.length; what++) {
-            Due.equal(when + ": now(" + what + ")", x.now(what), want[what]);
-        }
-    }
-
-    private static void dueShown(String when, PictureBeats x, int row, int... want) {
-        for (int at = 0; at < want.length; at++) {
-            Due.equal(when + ": shown(" + at + ", " + row + ")", x.shown(at, row), want[at]);
-        }
-    }
-
     private static void newObject() {
         PictureBeats x = new PictureBeats();
-        dueNow("1", x, 16, 10, 0, 4, 24, 11, 0, 0, 0, 0, 0, 0);
+        Due.now("1", x, 16, 10, 0, 4, 24, 11, 0, 0, 0, 0, 0, 0);
         int[] registers = {0, 8, 0, 1, 0};
         for (int register = 0; register < 5; register++) {
             Due.equal("1: value(" + register + ")", x.value(register), registers[register]);
@@ -80,7 +59,7 @@ public final class PromiseTests {
         }
         Due.equal("1: an empty LIST", x.entry(0, 0, 0, 0), 1);
         x.ticks(TO_FIELD + 16);
-        dueShown("1: MEMORY is 0, PAPER 0", x, 0, 0, 0, 0, 0, 0, 0, 0, 0, 0, 0, 0, 0, 0, 0, 0, 0, -1);
+        Due.shown("1: MEMORY is 0, PAPER 0", x, 0, 0, 0, 0, 0, 0, 0, 0, 0, 0, 0, 0, 0, 0, 0, 0, 0, -1);
         Due.equal("NONE", PictureBeats.NONE, -1);
     }
 
@@ -97,13 +76,13 @@ public final class PromiseTests {
         x.ticks(TO_FIELD - 1);
         Due.equal("2: not ahead of the FIELD", x.now(4), 24);
         x.ticks(1);
-        dueNow("2: the longest holds", x, 0, 0, 0, 0, 160, 11);
-        PictureBeats short11 = atFieldOf(8, 1, 1, 1);
-        dueNow("2: the shortest holds", short11, 0, 0, 0, 0, 11, 11);
+        Due.now("2: the longest holds", x, 0, 0, 0, 0, 160, 11);
+        PictureBeats short11 = Scenes.atFieldOf(8, 1, 1, 1);
+        Due.now("2: the shortest holds", short11, 0, 0, 0, 0, 11, 11);
         short11.ticks(11);
-        dueNow("2: a line of 11", short11, 0, 1);
+        Due.now("2: a line of 11", short11, 0, 1);
         short11.ticks(10);
-        dueNow("2: ahead of a line's end", short11, 10, 1);
+        Due.now("2: ahead of a line's end", short11, 10, 1);
     }
 
     private static void field() {
@@ -116,18 +95,18 @@ public final class PromiseTests {
             Due.no("3: field(" + w[0] + ", " + w[1] + ", " + w[2] + ", " + w[3] + ")", x.field(w[0], w[1], w[2], w[3], true));
         }
         x.ticks(TO_FIELD);
-        dueNow("3: the longest holds", x, 0, 0, 0, 0, 24, 56);
+        Due.now("3: the longest holds", x, 0, 0, 0, 0, 24, 56);
         Due.equal("3: its last tick", x.ticks(56 * 24 - 1), TO_FIELD + 56 * 24 - 1);
-        dueNow("3: its last tick", x, 23, 55, 0, 4);
+        Due.now("3: its last tick", x, 23, 55, 0, 4);
         x.ticks(1);
-        dueNow("3: not INTERLACED, FIELD 0 again", x, 0, 0, 0, 0);
+        Due.now("3: not INTERLACED, FIELD 0 again", x, 0, 0, 0, 0);
 
         PictureBeats y = new PictureBeats();
         y.field(1, 1, 1, 1, false);
         y.ticks(TO_FIELD);
         Due.equal("3: the shortest holds", y.now(5), 4);
         y.ticks(24 * 4);
-        dueNow("3: four lines", y, 0, 0);
+        Due.now("3: four lines", y, 0, 0);
     }
 
     private static void fieldsInTurn() {
@@ -141,18 +120,18 @@ public final class PromiseTests {
         }
         x.register(4, 9);
         x.ticks(24 + 24);
-        dueShown("3: FIELD 0 has ROW 0", x, 0, 9);
-        dueShown("3: FIELD 0 has ROW 2", x, 2, 9);
-        dueShown("3: ROW 1 is of FIELD 1", x, 1, 0);
+        Due.shown("3: FIELD 0 has ROW 0", x, 0, 9);
+        Due.shown("3: FIELD 0 has ROW 2", x, 2, 9);
+        Due.shown("3: ROW 1 is of FIELD 1", x, 1, 0);
         Due.equal("3: no DOT in ROW 4", x.shown(0, 4), -1);
         x.register(4, 7);
         x.ticks(3 * 24 + 2 * 24);
-        dueShown("3: FIELD 1 has ROW 1", x, 1, 7);
-        dueShown("3: FIELD 1 has ROW 3", x, 3, 7);
-        dueShown("3: ROW 0 stays", x, 0, 9);
+        Due.shown("3: FIELD 1 has ROW 1", x, 1, 7);
+        Due.shown("3: FIELD 1 has ROW 3", x, 3, 7);
+        Due.shown("3: ROW 0 stays", x, 0, 9);
         x.field(2, 1, 1, 1, false);
         x.ticks(3 * 24);
-        dueNow("3: FIELD 0 behind FIELD 1", x, 0, 0, 0);
+        Due.now("3: FIELD 0 behind FIELD 1", x, 0, 0, 0);
         x.field(2, 1, 1, 1, true);
         x.ticks(5 * 24);
         Due.equal("3: FIELD 0 behind a MODE not INTERLACED", x.now(2), 0);
@@ -168,14 +147,14 @@ public final class PromiseTests {
         x.line(32, 1, 1, 1);
         x.field(3, 1, 1, 1, true);
         x.ticks(TO_FIELD - 1);
-        dueNow("2: told too late for this FIELD", x, 0, 0, 0, 0, 24, 11);
+        Due.now("2: told too late for this FIELD", x, 0, 0, 0, 0, 24, 11);
         x.ticks(11 * 24 - 8);
-        dueNow("2: at the tick that takes up", x, 16, 10, 0, 4, 24, 11);
+        Due.now("2: at the tick that takes up", x, 16, 10, 0, 4, 24, 11);
         x.ticks(1);
         x.line(8, 1, 1, 1);
-        dueNow("2: the old MODE holds on", x, 17, 10, 0, 4, 24, 11);
+        Due.now("2: the old MODE holds on", x, 17, 10, 0, 4, 24, 11);
         x.ticks(7);
-        dueNow("2: the MODE taken up holds", x, 0, 0, 0, 0, 35, 6, 2);
+        Due.now("2: the MODE taken up holds", x, 0, 0, 0, 0, 35, 6, 2);
         x.ticks(32);
         Due.equal("2: bytes of the new MODE's line (5)", x.now(10), 8 * 3 + 5);
     }
@@ -190,11 +169,11 @@ public final class PromiseTests {
         Due.no("4: put(lowest)", x.put(Integer.MIN_VALUE, 1));
         Due.no("4: put(highest)", x.put(Integer.MAX_VALUE, 1));
         x.ticks(TO_FIELD + 16);
-        dueShown("4: bits of 80 00", x, 0, 1, 0, 0, 0, 0, 0, 0, 0, 0, 0, 0, 0, 0, 0, 0, 0);
+        Due.shown("4: bits of 80 00", x, 0, 1, 0, 0, 0, 0, 0, 0, 0, 0, 0, 0, 0, 0, 0, 0, 0);
         x.register(0, 1023);
         x.register(1, 0);
         x.ticks(24);
-        dueShown("4: bits of FF 80", x, 1, 1, 1, 1, 1, 1, 1, 1, 1, 1, 0, 0, 0, 0, 0, 0, 0);
+        Due.shown("4: bits of FF 80", x, 1, 1, 1, 1, 1, 1, 1, 1, 1, 1, 0, 0, 0, 0, 0, 0, 0);
     }
 
     private static void four() {
@@ -206,17 +185,17 @@ public final class PromiseTests {
         Due.no("5: four(1024)", x.four(1024, 0));
         Due.no("5: four(lowest)", x.four(Integer.MIN_VALUE, 0));
         x.ticks(TO_FIELD + 16);
-        dueShown("5: the last two bytes are at 0 and 1", x, 0, 0, 0, 0, 0, 0, 0, 0, 1, 0, 0, 0, 0, 0, 0, 1, 0);
+        Due.shown("5: the last two bytes are at 0 and 1", x, 0, 0, 0, 0, 0, 0, 0, 0, 1, 0, 0, 0, 0, 0, 0, 1, 0);
         x.register(0, 1022 - 8);
         x.ticks(24);
-        dueShown("5: the first two at 1022 and 1023", x, 1, 1, 0, 0, 0, 0, 0, 0, 0, 1, 1, 1, 1, 1, 1, 1, 1);
+        Due.shown("5: the first two at 1022 and 1023", x, 1, 1, 0, 0, 0, 0, 0, 0, 0, 1, 1, 1, 1, 1, 1, 1, 1);
         x.register(0, 1021 - 16);
         x.ticks(24);
-        dueShown("5: the byte ahead stays", x, 2, 0, 0, 0, 0, 1, 1, 1, 1, 1, 0);
+        Due.shown("5: the byte ahead stays", x, 2, 0, 0, 0, 0, 1, 1, 1, 1, 1, 0);
         x.register(0, 1);
         x.register(1, 0);
         x.ticks(24);
-        dueShown("5: the byte behind stays", x, 3, 0, 0, 0, 0, 0, 0, 1, 0, 1, 1, 1, 1, 0, 0, 0, 0);
+        Due.shown("5: the byte behind stays", x, 3, 0, 0, 0, 0, 0, 0, 1, 0, 1, 1, 1, 1, 0, 0, 0, 0);
         Due.yes("5: last place", x.four(1023, 0));
     }
 
@@ -249,19 +228,19 @@ public final class PromiseTests {
         x.ticks(TO_FIELD - 1 + 8);
         x.register(3, 200);
         x.ticks(8);
-        dueShown("6: byte 0 from 0, byte 1 from 101", x, 0, 0, 0, 0, 0, 0, 0, 0, 0, 200, 200);
+        Due.shown("6: byte 0 from 0, byte 1 from 101", x, 0, 0, 0, 0, 0, 0, 0, 0, 0, 200, 200);
         x.register(0, 98);
         x.register(1, 2);
         x.ticks(24);
-        dueShown("6: BASE and STRIDE times ROW", x, 1, 200, 200);
+        Due.shown("6: BASE and STRIDE times ROW", x, 1, 200, 200);
         x.register(1, 1);
         x.ticks(24);
-        dueShown("6: 98 and 2", x, 2, 200);
+        Due.shown("6: 98 and 2", x, 2, 200);
         x.register(0, 1023);
         x.register(1, 64);
         x.put((1023 + 64 * 3) % 1024, 0xA0);
         x.ticks(24);
-        dueShown("6: by 1024", x, 3, 200, 0, 200, 0);
+        Due.shown("6: by 1024", x, 3, 200, 0, 200, 0);
     }
 
     private static void entry() {
@@ -302,7 +281,7 @@ public final class PromiseTests {
         Due.equal("7: the later entry counts", x.value(4), 21);
         Due.equal("7: SCROLL of the same tick", x.now(7), 1);
         x.ticks(13);
-        dueShown("7: changed ahead of the DOT", x, 0, 33, 0, 33, 44, 21, 21);
+        Due.shown("7: changed ahead of the DOT", x, 0, 33, 0, 33, 44, 21, 21);
         x.ticks(8 + 3);
         Due.equal("7: the next line's", x.value(4), 22);
         x.ticks(11 * 24);
@@ -311,7 +290,7 @@ public final class PromiseTests {
         x.ticks(10 * 24);
         Due.equal("7: again at 0, 2", x.value(4), 21);
 
-        PictureBeats edge = atFieldOf(8, 1, 1, 1);
+        PictureBeats edge = Scenes.atFieldOf(8, 1, 1, 1);
         edge.entry(0, 11, 4, 5);
         edge.entry(11, 0, 4, 6);
         edge.entry(10, 10, 3, 7);
@@ -419,15 +398,15 @@ public final class PromiseTests {
         y.sprite(1, 14, 0, 1);
         y.sprite(2, -7, 0, 1);
         y.ticks(TO_FIELD + 16);
-        dueShown("11: over both edges", y, 0, 258, 0, 0, 0, 0, 0, 0, 0, 0, 0, 0, 0, 0, 0, 257, 0, -1);
+        Due.shown("11: over both edges", y, 0, 258, 0, 0, 0, 0, 0, 0, 0, 0, 0, 0, 0, 0, 0, 257, 0, -1);
         y.sprite(2, -8, 1, 1);
         y.ticks(24);
-        dueShown("11: at -8 nothing is to be seen", y, 1, 0, 0);
+        Due.shown("11: at -8 nothing is to be seen", y, 1, 0, 0);
         wideSprite();
         y.sprite(0, 1, 2, 1);
         y.bits(0, true, 0xFF000000);
         y.ticks(24);
-        dueShown("11: SPRITE 0 shows, eight wide", y, 2, 0, 256, 256, 256, 256, 256, 256, 256, 256, 0, 0);
+        Due.shown("11: SPRITE 0 shows, eight wide", y, 2, 0, 256, 256, 256, 256, 256, 256, 256, 256, 0, 0);
     }
 
     private static void wideSprite() {
@@ -469,22 +448,22 @@ public final class PromiseTests {
         x.ticks(TO_FIELD + 9);
         Due.equal("12: a bit is taken under a SPRITE too", x.now(7), 7);
         x.ticks(7);
-        dueShown("11: the first one shows, three in a ROW", x, 0, 1, 1, 257, 257, 257, 257, 258, 258, 259, 259, 0, 0, 0);
+        Due.shown("11: the first one shows, three in a ROW", x, 0, 1, 1, 257, 257, 257, 257, 258, 258, 259, 259, 0, 0, 0);
         x.sprite(1, -8, 1, 8);
         x.sprite(2, -8, 1, 8);
         x.sprite(3, -8, 1, 8);
         x.sprite(4, 3, 1, 1);
         x.ticks(24);
-        dueShown("11: unseen ones count for the three", x, 1, 0, 0, 0, 0, 0);
+        Due.shown("11: unseen ones count for the three", x, 1, 0, 0, 0, 0, 0);
         x.sprite(2, 0, 2, 0);
         x.sprite(4, 3, 2, 1);
         x.ticks(24);
-        dueShown("11: a height of 0 does not", x, 2, 0, 0, 0, 260, 260, 260, 260, 0);
+        Due.shown("11: a height of 0 does not", x, 2, 0, 0, 0, 260, 260, 260, 260, 0);
         x.readers(1, 1);
         x.sprite(4, 3, 3, 1);
         int unders = x.now(8);
         x.ticks(24);
-        dueShown("13: an UNDER under a SPRITE", x, 3, 512, 512, 512, 260, 260, 260, 260, 512);
+        Due.shown("13: an UNDER under a SPRITE", x, 3, 512, 512, 512, 260, 260, 260, 260, 512);
         Due.equal("13: it counts", x.now(8), unders + 16);
     }
 
@@ -495,12 +474,12 @@ public final class PromiseTests {
         Due.equal("13: 4001", x.ticks(4001), -1);
         Due.equal("13: lowest", x.ticks(Integer.MIN_VALUE), -1);
         Due.equal("13: highest", x.ticks(Integer.MAX_VALUE), -1);
-        dueNow("13: nothing happened", x, 16, 10);
+        Due.now("13: nothing happened", x, 16, 10);
         Due.equal("13: 1", x.ticks(1), 1);
         Due.equal("13: 4000", x.ticks(4000), 4001);
         Due.equal("13: one by one", x.ticks(2), 4003);
         int on = (4003 - TO_FIELD) % (11 * 24);
-        dueNow("13: there it is", x, on % 24, on / 24);
+        Due.now("13: there it is", x, on % 24, on / 24);
     }
 
     private static void ticksInAll() {
@@ -515,7 +494,7 @@ public final class PromiseTests {
         Due.equal("13: no more", x.ticks(1), -1);
         Due.equal("13: no more at all", x.ticks(4000), -1);
         int on = (1000000 - TO_FIELD) % (11 * 24);
-        dueNow("13: at the end", x, on % 24, on / 24);
+        Due.now("13: at the end", x, on % 24, on / 24);
         x.again(0);
         Due.equal("13: as the image has it", x.ticks(1), 1000000);
     }
@@ -528,31 +507,31 @@ public final class PromiseTests {
         x.ticks(TO_FIELD);
         Due.equal("13: 17 SEEN, 4 bytes", x.now(6), 4);
         x.ticks(17);
-        dueNow("13: ahead of the next line", x, 17, 0, 0, 4, 25, 11, 1, 7);
+        Due.now("13: ahead of the next line", x, 17, 0, 0, 4, 25, 11, 1, 7);
         x.ticks(1);
-        dueNow("13: emptied, and one fetched", x, 18, 0, 0, 4, 25, 11, 1, 0);
+        Due.now("13: emptied, and one fetched", x, 18, 0, 0, 4, 25, 11, 1, 0);
         x.ticks(7 * 25 - 2);
-        dueNow("13: the last SEEN line is at its end", x, 16, 7);
+        Due.now("13: the last SEEN line is at its end", x, 16, 7);
         Due.equal("13: bytes of eight lines", x.now(10), 8 * 4);
         x.ticks(2);
-        dueNow("13: no bytes for a line not SEEN", x, 18, 7, 0, 4, 25, 11, 0, 0, 0, 8 * 17, 8 * 4);
+        Due.now("13: no bytes for a line not SEEN", x, 18, 7, 0, 4, 25, 11, 0, 0, 0, 8 * 17, 8 * 4);
         x.ticks(3 * 25 - 1);
-        dueNow("13: none so far", x, 17, 10, 0, 4, 25, 11, 0, 0, 0, 8 * 17, 8 * 4);
+        Due.now("13: none so far", x, 17, 10, 0, 4, 25, 11, 0, 0, 0, 8 * 17, 8 * 4);
         x.ticks(1);
         Due.equal("13: the next FIELD's first line", x.now(10), 8 * 4 + 1);
-        PictureBeats y = atFieldOf(16, 1, 1, 1);
+        PictureBeats y = Scenes.atFieldOf(16, 1, 1, 1);
         y.depth(8);
         y.ticks(16 + 19);
         Due.equal("13: 16 SEEN, 3 bytes", y.now(10) - 3, 3);
-        PictureBeats z = atFieldOf(15, 1, 1, 1);
+        PictureBeats z = Scenes.atFieldOf(15, 1, 1, 1);
         z.ticks(15);
         Due.equal("13: 15 SEEN, 3 bytes", z.now(10), 3);
-        PictureBeats own = atFieldOf(8, 1, 1, 1);
+        PictureBeats own = Scenes.atFieldOf(8, 1, 1, 1);
         own.put(8, 0x80);
         own.put(16, 0x40);
         own.ticks(8 + 11 + 11);
-        dueShown("13: each line has its own bytes", own, 1, 1, 0, 0);
-        dueShown("13: each line has its own bytes", own, 2, 0, 1, 0);
+        Due.shown("13: each line has its own bytes", own, 1, 1, 0, 0);
+        Due.shown("13: each line has its own bytes", own, 2, 0, 1, 0);
     }
 
     private static void scroll() {
@@ -560,21 +539,21 @@ public final class PromiseTests {
         x.four(0, 0x01FE0200);
         x.register(2, 7);
         x.ticks(TO_FIELD + 1);
-        dueNow("13: eight bits are gone", x, 1, 0, 0, 0, 24, 11, 1, 0, 0, 1);
+        Due.now("13: eight bits are gone", x, 1, 0, 0, 0, 24, 11, 1, 0, 0, 1);
         x.ticks(15);
-        dueShown("13: from bit 7 on", x, 0, 1, 1, 1, 1, 1, 1, 1, 1, 0, 0, 0, 0, 0, 0, 0, 1);
+        Due.shown("13: from bit 7 on", x, 0, 1, 1, 1, 1, 1, 1, 1, 1, 0, 0, 0, 0, 0, 0, 0, 1);
         Due.equal("13: the one byte more", x.now(7), 1);
         Due.equal("13: no UNDER", x.now(8), 0);
         x.four(8, 0x08000000);
         x.register(2, 4);
         x.ticks(24);
-        dueShown("13: from bit 4 on", x, 1, 1, 0, 0, 0);
+        Due.shown("13: from bit 4 on", x, 1, 1, 0, 0, 0);
         x.register(2, 0);
         x.put(16, 0x80);
         x.ticks(9);
         x.register(2, 5);
         x.ticks(15);
-        dueShown("13: SCROLL counts at X 0 alone", x, 2, 1, 0, 0, 0, 0, 0, 0, 0);
+        Due.shown("13: SCROLL counts at X 0 alone", x, 2, 1, 0, 0, 0, 0, 0, 0, 0);
     }
 
     private static void unders() {
@@ -582,16 +561,16 @@ public final class PromiseTests {
         x.readers(1, 1);
         x.register(2, 5);
         x.ticks(TO_FIELD + 1);
-        dueNow("13: one UNDER of SCROLL, one of the DOT", x, 1, 0, 0, 0, 24, 11, 0, 0, 2, 1, 0, 1);
+        Due.now("13: one UNDER of SCROLL, one of the DOT", x, 1, 0, 0, 0, 24, 11, 0, 0, 2, 1, 0, 1);
         x.ticks(2);
         x.four(0, 0xA0000000);
         x.readers(1, 0);
         x.ticks(1);
-        dueNow("13: fetched and taken in one tick", x, 4, 0, 0, 0, 24, 11, 0, 7, 4, 4, 1, 0);
+        Due.now("13: fetched and taken in one tick", x, 4, 0, 0, 0, 24, 11, 0, 7, 4, 4, 1, 0);
         x.readers(1, 1);
         x.ticks(12);
-        dueShown("13: UNDERS around a byte", x, 0, 512, 512, 512, 1, 0, 1, 0, 0, 0, 0, 0, 512, 512, 512, 512, 512, -1);
-        dueNow("13: UNDERS of the line", x, 16, 0, 0, 4, 24, 11, 0, 0, 9, 16, 1, 1);
+        Due.shown("13: UNDERS around a byte", x, 0, 512, 512, 512, 1, 0, 1, 0, 0, 0, 0, 0, 512, 512, 512, 512, 512, -1);
+        Due.now("13: UNDERS of the line", x, 16, 0, 0, 4, 24, 11, 0, 0, 9, 16, 1, 1);
     }
 
     private static void shown() {
@@ -631,11 +610,11 @@ public final class PromiseTests {
         x.field(2, 1, 1, 1, true);
         x.readers(2, 2);
         x.ticks(TO_FIELD + 5 * 24 + 24 + 5);
-        dueNow("15: in FIELD 1", x, 5, 1, 1, 0, 24, 5, 2, 3, 0, 53, 12, 1);
+        Due.now("15: in FIELD 1", x, 5, 1, 1, 0, 24, 5, 2, 3, 0, 53, 12, 1);
     }
 
     private static void signals() {
-        PictureBeats x = atFieldOf(8, 2, 3, 4);
+        PictureBeats x = Scenes.atFieldOf(8, 2, 3, 4);
         x.field(1, 2, 1, 2, false);
         Due.equal("16: 0", x.signals(0), -1);
         Due.equal("16: -1", x.signals(-1), -1);
@@ -748,12 +727,12 @@ public final class PromiseTests {
         x.depth(1);
         Due.equal("19: one free in eight for each turn", x.least(8, 7), 1);
         Due.equal("19: a DEPTH of 1 keeps none ahead", x.least(9, 8), 0);
-        PictureBeats tight = atFieldOf(24, 1, 1, 1);
+        PictureBeats tight = Scenes.atFieldOf(24, 1, 1, 1);
         // Four ticks up to the first turn: a taken stretch of four leaves nothing.
         Due.equal("19: four taken in a row", tight.least(8, 4), 0);
         Due.equal("19: three taken in a row", tight.least(8, 3), 1);
         Due.equal("19: the DEPTH reached", tight.least(2, 1), 2);
-        dueNow("19: the object goes on as it was", tight, 0, 0, 0, 0, 27, 11, 2, 0, 0, 0, 2, 0);
+        Due.now("19: the object goes on as it was", tight, 0, 0, 0, 0, 27, 11, 2, 0, 0, 0, 2, 0);
     }
 
     private static void fit() {
